@@ -679,7 +679,7 @@ public final class ParkingRules {
             }
             arrived--;
             int space = place[arrived];
-            if (space != NOWHERE) {
+            if (space >= 0 && space < spaces) {
                 standing[space]--;
             }
         }
