@@ -1,3 +1,5 @@
+import java.util.Arrays;
+
 /** A workbench for parking functions: ../shared/DOC.md says what each call does. */
 public final class ParkingRules {
     private static final int MAX_SPACES = 8;
@@ -15,16 +17,16 @@ public final class ParkingRules {
     /** Stands where a space is asked for and the car has left. */
     private static final int NOWHERE = -1;
 
-    /** What a count of parking lists asks of a list: nothing more, or one of three numbers. */
-    private static final int BY_NOTHING = 0;
-    private static final int BY_DEFECT = 1;
-    private static final int BY_LUCKY = 2;
-    private static final int BY_SUM = 3;
+    /** What lists are counted by; by lucky cars or by the sum, only those that park. */
+    private static final int BY_DEFECT = 0;
+    private static final int BY_LUCKY = 1;
+    private static final int BY_SUM = 2;
 
     private final int n;
     private final Setup now;
     private final History history;
     private final Lot lot;
+    private final Memo memo;
     private final Path path;
     private final PathReader reader;
     private final int[] waiting;
@@ -36,6 +38,7 @@ public final class ParkingRules {
         now = new Setup();
         history = new History();
         lot = new Lot(n);
+        memo = new Memo();
         path = new Path(n);
         reader = new PathReader(n);
         waiting = new int[MAX_SPACES];
@@ -180,7 +183,7 @@ public final class ParkingRules {
 
     public int rank() throws IllegalStateException {
         requireState(isCountable(now.count));
-        lot.open(now);
+        startCount();
         int before = 0;
         boolean parks = true;
         // Behind a car that leaves, no list that begins in the same way parks.
@@ -196,7 +199,7 @@ public final class ParkingRules {
     public int setRank(int cars, int rank)
             throws IllegalArgumentException, IllegalStateException {
         requireArgument(isUpTo(cars, MAX_CARS) && rank >= 0);
-        requireState(rank < countAll(cars, BY_NOTHING, 0));
+        requireState(rank < countAll(cars, BY_DEFECT, 0));
         lot.open(now);
         int rest = rank;
         for (int car = 0; car < cars; car++) {
@@ -222,47 +225,57 @@ public final class ParkingRules {
 
     private int countAll(int cars, int measure, int value) {
         requireState(isCountable(cars));
+        startCount();
+        return countLists(lot, memo, cars, measure, value);
+    }
+
+    private void startCount() {
         lot.open(now);
-        return countLists(lot, cars, measure, value);
+        memo.clear();
     }
 
     /**
      * Counts the ways in which the coming cars can go on behind those in the lot, so that the
      * coming ones bring the rest of the measured number. Depth: the coming cars, at most 9.
      */
-    private static int countLists(Lot lot, int coming, int measure, int rest) {
+    private static int countLists(Lot lot, Memo memo, int coming, int measure, int rest) {
         if (coming <= 0) {
             return rest == 0 ? 1 : 0;
+        }
+        // What follows depends on these alone: 16 bits, 4 bits, 6 bits.
+        long key = lot.filling | (long) coming << 16 | (long) rest << 20;
+        int known = memo.find(key);
+        if (known != Memo.UNKNOWN) {
+            return known;
         }
         int lists = 0;
         for (int space = 0; space < lot.spaces; space++) {
             boolean parks = lot.arrive(space);
             int restBehind = rest - shareOfLastCar(lot, measure);
             if ((parks || measure == BY_DEFECT) && restBehind >= 0) {
-                lists += countLists(lot, coming - 1, measure, restBehind);
+                lists += countLists(lot, memo, coming - 1, measure, restBehind);
             }
             lot.takeBackLast();
         }
+        memo.put(key, lists);
         return lists;
     }
 
     private static int shareOfLastCar(Lot lot, int measure) {
         int car = lot.arrived - 1;
         switch (measure) {
-            case BY_DEFECT:
-                return lot.hasLeft(car) ? 1 : 0;
             case BY_LUCKY:
                 return lot.isLuckyCar(car) ? 1 : 0;
             case BY_SUM:
                 return lot.wishOf(car);
             default:
-                return 0;
+                return lot.hasLeft(car) ? 1 : 0;
         }
     }
 
     /** Counts the parking lists that go on with this space behind the cars in the lot. */
     private int countBeginningWith(int space, int coming) {
-        int lists = lot.arrive(space) ? countLists(lot, coming, BY_NOTHING, 0) : 0;
+        int lists = lot.arrive(space) ? countLists(lot, memo, coming, BY_DEFECT, 0) : 0;
         lot.takeBackLast();
         return lists;
     }
@@ -271,7 +284,7 @@ public final class ParkingRules {
     private int parkNextOfRank(int coming, int rank) {
         int passed = 0;
         for (int space = 0; space < n; space++) {
-            int lists = lot.arrive(space) ? countLists(lot, coming, BY_NOTHING, 0) : 0;
+            int lists = lot.arrive(space) ? countLists(lot, memo, coming, BY_DEFECT, 0) : 0;
             if (rank - passed < lists) {
                 return passed;
             }
@@ -301,8 +314,8 @@ public final class ParkingRules {
         for (int space = 0; space < n; space++) {
             waiting[space] = now.countOfWishes(space);
         }
-        lot.open(now);
-        return countOrders(lot, waiting, now.count);
+        startCount();
+        return countOrders(lot, memo, waiting, now.count);
     }
 
     public boolean nextArrangement() {
@@ -314,22 +327,37 @@ public final class ParkingRules {
      * Counts the orders in which the waiting cars can come so that all of them park; waiting has
      * their number for each preference. Depth: the coming cars, at most 9.
      */
-    private static int countOrders(Lot lot, int[] waiting, int coming) {
+    private static int countOrders(Lot lot, Memo memo, int[] waiting, int coming) {
         if (coming <= 0) {
             return 1;
+        }
+        // What follows depends on these alone: 32 bits, 16 bits.
+        long key = keyOf(waiting) << 16 | lot.filling;
+        int known = memo.find(key);
+        if (known != Memo.UNKNOWN) {
+            return known;
         }
         int orders = 0;
         for (int space = 0; space < lot.spaces && space < waiting.length; space++) {
             if (waiting[space] > 0) {
                 waiting[space]--;
                 if (lot.arrive(space)) {
-                    orders += countOrders(lot, waiting, coming - 1);
+                    orders += countOrders(lot, memo, waiting, coming - 1);
                 }
                 lot.takeBackLast();
                 waiting[space]++;
             }
         }
+        memo.put(key, orders);
         return orders;
+    }
+
+    private static long keyOf(int[] waiting) {
+        long key = 0;
+        for (int number : waiting) {
+            key = key << 4 | number;
+        }
+        return key;
     }
 
     /** Makes the list its next order, or the smallest one if there is none: then false. */
@@ -639,6 +667,8 @@ public final class ParkingRules {
         int rule;
         int reach;
         int arrived;
+        /** How many cars stand in each space, two bits a space. */
+        int filling;
 
         Lot(int spaces) {
             this.spaces = spaces;
@@ -658,6 +688,7 @@ public final class ParkingRules {
             rule = setup.rule;
             reach = setup.reach;
             arrived = 0;
+            filling = 0;
         }
 
         /** Lets the next car arrive, and tells whether it parks. */
@@ -681,6 +712,7 @@ public final class ParkingRules {
             int space = place[arrived];
             if (space >= 0 && space < spaces) {
                 standing[space]--;
+                filling -= 1 << 2 * space;
             }
         }
 
@@ -737,6 +769,7 @@ public final class ParkingRules {
                 return false;
             }
             standing[space]++;
+            filling += 1 << 2 * space;
             place[car] = space;
             return true;
         }
@@ -804,6 +837,45 @@ public final class ParkingRules {
                 }
             }
             return sum;
+        }
+    }
+
+    /**
+     * Counts that one call has made, by keys for what they depend on, so that the dear calls do
+     * not go again through all that lies behind the same filling of the lot. A count may be
+     * dropped for a later one, and is then made again.
+     */
+    private static final class Memo {
+        static final int UNKNOWN = -1;
+        private static final long NO_KEY = -1L;
+        private static final int BITS = 10;
+
+        final long[] keys;
+        final int[] counts;
+
+        Memo() {
+            keys = new long[1 << BITS];
+            counts = new int[1 << BITS];
+        }
+
+        void clear() {
+            Arrays.fill(keys, NO_KEY);
+        }
+
+        int find(long key) {
+            int slot = slotOf(key);
+            return keys[slot] == key ? counts[slot] : UNKNOWN;
+        }
+
+        void put(long key, int count) {
+            int slot = slotOf(key);
+            keys[slot] = key;
+            counts[slot] = count;
+        }
+
+        /** The upper bits of the product: from 0 to the last slot for every key. */
+        private static int slotOf(long key) {
+            return (int) (key * 0x9E3779B97F4A7C15L >>> 64 - BITS);
         }
     }
 

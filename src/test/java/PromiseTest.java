@@ -15,6 +15,8 @@ public final class PromiseTest {
         changes();
         parkingByTheRules();
         capacitiesAndParking();
+        callsAlone();
+        firstCarLeaves();
         parkingRefusals();
         counting();
         countingByTheRules();
@@ -232,6 +234,37 @@ public final class PromiseTest {
         check.answers("firstLeaving() of nine", 8, full::firstLeaving);
     }
 
+    /** Each call parks the cars itself: on an object of its own, as the first one asked. */
+    private static void callsAlone() {
+        check.answers("spaceOf(2) alone", 2, () -> with(3, 1, 0, 0, 0).spaceOf(2));
+        check.answers("steps(2) alone", 3, () -> with(3, 1, 0, 0, 0).steps(2));
+        check.answers("carsIn(2) alone", 4, () -> with(3, 1, 0, 0, 0).carsIn(2));
+        check.answers("defect() alone", 1, () -> with(3, 1, 0, 0, 0).defect());
+        check.answers("firstLeaving() alone", 3, () -> with(3, 1, 0, 0, 0).firstLeaving());
+        check.answers("lucky() alone", 3, () -> with(3, 1, 0, 0, 0).lucky());
+        check.answers("displacement() alone", 2, () -> with(3, 1, 0, 0, 0).displacement());
+        check.answers("rank() alone", 2, () -> with(2, 1, 0).rank());
+        check.answers("area() alone", 1, () -> with(2, 0, 0).area());
+        check.answers("inversions() alone", 1, () -> with(2, 0, 1).inversions());
+        check.answers("word(0) alone", 1, () -> with(2, 0, 0).word(0));
+        check.answers("label(1) alone", 1, () -> with(2, 0, 0).label(1));
+        check.answers("areaOf(1) alone", 1, () -> with(2, 0, 0).areaOf(1));
+        check.answers("pathChar(3) alone", '1', () -> with(2, 0, 0).pathChar(3));
+        check.answers("fingerprint() alone", print(1, 1, 0, 1, 0, 0, 1, 0, 1, 0),
+            () -> with(1, 0).fingerprint());
+    }
+
+    private static void firstCarLeaves() {
+        ParkingRules x = with(3, 1, 0);
+        x.setRule(2, 0);
+        x.setCapacity(1, 0);
+        check.answers("firstLeaving()", 0, x::firstLeaving);
+        check.answers("defect()", 1, x::defect);
+        check.answers("lucky()", 2, x::lucky);
+        x.setRule(0, 0);
+        check.answers("displacement()", 1, x::displacement);
+    }
+
     private static void parkingRefusals() {
         ParkingRules x = with(3, 1, 2);
         for (int car : new int[] {-1, 2, LEAST, MOST}) {
@@ -317,6 +350,9 @@ public final class PromiseTest {
         numbers("rule 3: countDefect(2, ", new long[] {4, 0}, d -> x.countDefect(2, d));
         numbers("rule 3: countLucky(2, ", new long[] {0, 2, 2}, l -> x.countLucky(2, l));
         numbers("rule 3: countSum(2, ", new long[] {1, 2, 1}, s -> x.countSum(2, s));
+        x.setRule(3, 0);
+        numbers("rule 3, 0: countDefect(2, ", new long[] {2, 2}, d -> x.countDefect(2, d));
+        numbers("rule 3, 0: countLucky(2, ", new long[] {0, 0, 2}, l -> x.countLucky(2, l));
         x.setRule(0, 0);
         x.setCapacity(0, 0);
         numbers("no space 0: countDefect(1, ", new long[] {2, 0}, d -> x.countDefect(1, d));
@@ -455,6 +491,16 @@ public final class PromiseTest {
         }
         check.is("nextArrangement() of the last", false, x::nextArrangement);
         check.same("the first arrangement", "0223", list(x));
+        ParkingRules nine = with(8, 0, 1, 7, 6, 5, 4, 3, 3, 2);
+        check.is("nextArrangement() of nine", true, nine::nextArrangement);
+        check.same("nine", "021334567", list(nine));
+        ParkingRules nineLast = with(8, 7, 6, 5, 4, 3, 2, 1, 0, 0);
+        check.is("nextArrangement() of the last nine", false, nineLast::nextArrangement);
+        check.same("the first nine", "001234567", list(nineLast));
+        ParkingRules removed = with(4, 2, 1, 3);
+        removed.removeCar();
+        check.is("nextArrangement() without a removed car", false, removed::nextArrangement);
+        check.same("then", "12", list(removed));
         ParkingRules none = new ParkingRules(4);
         check.is("nextArrangement() of none", false, none::nextArrangement);
         check.answers("undo() of it", 0, none::undo);
