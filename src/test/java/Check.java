@@ -50,9 +50,27 @@ final class Check {
         } else {
             wrong++;
             if (wrong <= 40) {
-                System.out.println(test + ": " + what + " answered " + got + ", due is " + due);
+                int from = differsFrom(due, got);
+                System.out.println(test + ": " + what + " answered " + part(got, from)
+                    + ", due is " + part(due, from));
             }
         }
+    }
+
+    private static int differsFrom(String due, String got) {
+        int at = 0;
+        while (at < due.length() && at < got.length() && due.charAt(at) == got.charAt(at)) {
+            at++;
+        }
+        return Math.max(0, at - 30);
+    }
+
+    /** Long answers are cut: what stands before the first difference says nothing. */
+    private static String part(String answer, int from) {
+        if (answer.length() <= 80) {
+            return answer;
+        }
+        return (from > 0 ? ".." : "") + answer.substring(from, Math.min(answer.length(), from + 80));
     }
 
     int wrong() {
