@@ -16,6 +16,7 @@ public final class BoundaryTest {
         sequences();
         parkingCalls();
         countingRanges();
+        countingWhereCarsLeave();
         countingIsPossible();
         ranks();
         arrangements();
@@ -550,6 +551,52 @@ public final class BoundaryTest {
             """);
     }
 
+    /** Promises 18 to 22 where cars leave: lists that do not park are counted by defect alone. */
+    private static void countingWhereCarsLeave() {
+        for (String rule : new String[] {"2 0", "3 0"}) {
+            sentence("18 to 22: each car parks where it wants or leaves", 2, """
+                setRule RULE = 0
+                countDefect 2 0 = 2
+                countDefect 2 1 = 2
+                countDefect 2 2 = 0
+                countLucky 2 0 = 0
+                countLucky 2 1 = 0
+                countLucky 2 2 = 2
+                countSum 2 0 = 0
+                countSum 2 1 = 2
+                countSum 2 2 = 0
+                countDefect 3 0 = 0
+                countDefect 3 1 = 6
+                countDefect 3 2 = 2
+                setRank 2 2 = STATE
+                setRank 2 1 = 1
+                list = '10'
+                rank = 1
+                setRank 2 0 = 1
+                list = '01'
+                rank = 0
+                setPreference 0 1 = 0
+                rank = 2
+                """.replace("RULE", rule));
+        }
+        sentence("18 to 22: no car parks below its space", 2, """
+            setCapacity 1 0 = 1
+            countDefect 1 0 = 1
+            countDefect 1 1 = 1
+            countLucky 1 0 = 0
+            countLucky 1 1 = 1
+            countSum 1 1 = 0
+            setRank 1 1 = STATE
+            setRank 1 0 = 0
+            setRule 1 1 = 0
+            countDefect 1 0 = 2
+            countLucky 1 0 = 1
+            countSum 1 1 = 1
+            setRank 1 1 = 1
+            list = '1'
+            """);
+    }
+
     /** The description: counting is possible if n to the power of m is at most 50000. */
     private static void countingIsPossible() {
         int[] most = {9, 9, 9, 7, 6, 6, 5, 5};
@@ -704,6 +751,41 @@ public final class BoundaryTest {
             list = '132'
             nextArrangement = true
             list = '213'
+            """);
+        sentence("25: the smallest one that is greater, among equal ones", 4, """
+            addCar 1 = 0
+            addCar 3 = 1
+            addCar 2 = 2
+            addCar 1 = 3
+            arrangements = 12
+            nextArrangement = true
+            list = '2113'
+            nextArrangement = true
+            list = '2131'
+            nextArrangement = true
+            list = '2311'
+            nextArrangement = true
+            list = '3112'
+            undo = 5
+            list = '2311'
+            """);
+        sentence("25: nine cars, the last arrangement and the one before it", 8, """
+            addCar 7 = 0
+            addCar 6 = 1
+            addCar 5 = 2
+            addCar 4 = 3
+            addCar 3 = 4
+            addCar 2 = 5
+            addCar 1 = 6
+            addCar 0 = 7
+            addCar 0 = 8
+            nextArrangement = false
+            list = '001234567'
+            nextArrangement = true
+            list = '001234576'
+            undo = 5
+            undo = 4
+            list = '765432100'
             """);
         sentence("24: the list itself need not park", 4, """
             setRule 1 1 = 0

@@ -53,7 +53,49 @@ public final class FaceTest {
         }
         check.same("the class", "public final",
             Modifier.toString(ParkingRules.class.getModifiers()));
+        privateNames(check);
+        sizes(check, ParkingRules.class);
+        for (Class<?> inside : ParkingRules.class.getDeclaredClasses()) {
+            check.same(inside.getName() + " is private and static", "true",
+                "" + (Modifier.isPrivate(inside.getModifiers())
+                    && Modifier.isStatic(inside.getModifiers())));
+            sizes(check, inside);
+        }
         check.end();
+    }
+
+    /** LANGUAGE.md, rule 1: no private method bears the name of a public one. */
+    private static void privateNames(Check check) {
+        TreeSet<String> names = new TreeSet<>();
+        for (Method method : ParkingRules.class.getDeclaredMethods()) {
+            if (Modifier.isPublic(method.getModifiers())) {
+                names.add(method.getName());
+            }
+        }
+        for (Method method : ParkingRules.class.getDeclaredMethods()) {
+            if (!Modifier.isPublic(method.getModifiers())) {
+                check.same(method.getName() + " is the name of a public method", "false",
+                    "" + names.contains(method.getName()));
+            }
+        }
+    }
+
+    /** LANGUAGE.md, rules 5 and 11: few fields and parameters, static fields are final. */
+    private static void sizes(Check check, Class<?> type) {
+        int fields = 0;
+        for (Field field : type.getDeclaredFields()) {
+            if (Modifier.isStatic(field.getModifiers())) {
+                check.same(field.getName() + " is final", "true",
+                    "" + Modifier.isFinal(field.getModifiers()));
+            } else {
+                fields++;
+            }
+        }
+        check.same(type.getName() + " has few fields", "true", "" + (fields <= 20));
+        for (Method method : type.getDeclaredMethods()) {
+            check.same(method.getName() + " takes few parameters", "true",
+                "" + (method.getParameterCount() <= 7));
+        }
     }
 
     private static String lineOf(Method method) {

@@ -36,6 +36,18 @@ final class Scene {
         return full.behind("setRule " + before / 10 + " " + before % 10);
     }
 
+    /** The same object, before any call that only asks. */
+    private Scene withoutQuestions() {
+        List<String> changes = new ArrayList<>();
+        for (String call : calls) {
+            String name = call.split(" ")[0];
+            if (ACTS.contains(name) || TYPING.contains(name) || name.equals("undo")) {
+                changes.add(call);
+            }
+        }
+        return new Scene(spaces, changes);
+    }
+
     ParkingRules object() {
         ParkingRules object = new ParkingRules(spaces);
         replay(object);
@@ -64,6 +76,7 @@ final class Scene {
         String what = title + ": " + call + " on " + spaces + " spaces behind " + calls;
         ParkingRules x = object();
         check.same(what, due, Calls.line(x, call));
+        check.same(what + ", asked first", due, Calls.line(withoutQuestions().object(), call));
         Model model = model();
         check.same(what + ", the model", due, Calls.line(model, call));
         check.same(what + ", shown then", Calls.shown(model), Calls.shown(x));

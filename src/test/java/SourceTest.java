@@ -18,6 +18,7 @@ public final class SourceTest {
             Path.of("src/main/java/ParkingRules.java"), StandardCharsets.UTF_8);
         int methodFrom = 0;
         int classes = 0;
+        boolean inConstructor = false;
         for (int i = 0; i < lines.size(); i++) {
             String line = lines.get(i);
             String code = line.replaceAll("//.*|^ *(/\\*\\*|\\*).*", "");
@@ -36,6 +37,12 @@ public final class SourceTest {
             }
             if (code.matches(" {4,8}[^ ].*\\) ?(throws .*)?\\{|.* throws [^;]*\\{")) {
                 methodFrom = i;
+                inConstructor = code.matches(" {4,8}(public )?[A-Z]\\w*\\(.*");
+            }
+            // Rule 12 counts what a run makes: calls make nothing but what they throw.
+            if (code.contains("new ")) {
+                check.same(where + " makes an object in a constructor or throws it", "true",
+                    "" + (inConstructor || code.contains("throw new ")));
             }
             if (code.matches(" {4,8}\\}")) {
                 check.same(where + " ends a short method", "true",
